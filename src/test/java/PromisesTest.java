@@ -503,6 +503,11 @@ public final class PromisesTest {
         CHECK.due("victim()", z.victim(), 20);
         z.remove(1);
         CHECK.due("victim()", z.victim(), NONE);
+        // The recent list as long as the capacity is not longer than the target, but loses a page all the same.
+        AdaptiveReplacementCache one = made(1, 1, 1, 2, 1, 2, 3);
+        CHECK.dueText("the lists", Shown.lists(one), "recent 3 | frequent | recent ghosts | frequent ghosts 2");
+        CHECK.due("target()", one.target(), 1);
+        CHECK.due("victim()", one.victim(), 3);
         // The run that the next request may lengthen does not matter.
         AdaptiveReplacementCache scan = made(2, 1, 2);
         scan.setScanLength(2);
@@ -606,6 +611,11 @@ public final class PromisesTest {
         scan.clear();
         scan.setCapacity(5);
         CHECK.due("hitsIf(3)", scan.hitsIf(3), 3);
+        // It starts anew each time: the first key of the log does not follow the last one.
+        AdaptiveReplacementCache again = made(4, 8, 20, 8, 7);
+        again.setScanLength(2);
+        CHECK.due("hitsIf(4)", again.hitsIf(4), 1);
+        CHECK.due("hitsIf(4) again", again.hitsIf(4), 1);
         // It changes nothing that can be seen, and is the same again, after other ones also.
         AdaptiveReplacementCache same = withAllLists();
         String before = Shown.all(same);
@@ -645,7 +655,8 @@ public final class PromisesTest {
         AdaptiveReplacementCache z = made(8);
         z.setScanLength(2);
         requestAll(z, 10, 11, 12, 11);
-        CHECK.dueThrow("request(-1)", BAD_ARGUMENT, () -> z.request(-1));
+        CHECK.dueThrow("request(10000)", BAD_ARGUMENT, () -> z.request(10000));
+        CHECK.dueThrow("request(10000)", BAD_ARGUMENT, () -> z.request(10000));
         z.setScanLength(0);
         CHECK.due("hitsIf(4)", z.hitsIf(4), 1);
         CHECK.due("leastRecentHitsIf(4)", z.leastRecentHitsIf(4), 1);
