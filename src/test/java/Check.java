@@ -1,11 +1,17 @@
 /** Counts and prints the answers that are not the ones that are due. */
 final class Check {
+    private String told = "";
     private int wrong;
     private int made;
 
     /** A call that may throw. */
     interface Call {
         void make();
+    }
+
+    /** The words of the document that the checks from here on are about; a fault shows them. */
+    void words(String ofTheDocument) {
+        told = "\"" + ofTheDocument + "\": ";
     }
 
     void due(String call, long got, long want) {
@@ -39,7 +45,7 @@ final class Check {
     void fault(String text) {
         wrong++;
         if (wrong <= 50) {
-            System.out.println(text);
+            System.out.println(told + text);
         }
     }
 

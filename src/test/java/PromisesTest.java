@@ -1,21 +1,5 @@
 /** Each promise of the document by runs whose answers were worked out by hand from its words. */
-public final class PromisesTest {
-    private static final Class<IllegalArgumentException> BAD_ARGUMENT = IllegalArgumentException.class;
-    private static final Class<IndexOutOfBoundsException> BAD_PLACE = IndexOutOfBoundsException.class;
-    private static final int[] NO_KEYS = {-1, 10000, Integer.MIN_VALUE, Integer.MAX_VALUE};
-    private static final int[] NO_CAPACITIES = {0, 33, -1, Integer.MIN_VALUE, Integer.MAX_VALUE};
-    private static final int NONE = -1;
-    private static final int NOWHERE = 0;
-    private static final int RECENT = 1;
-    private static final int FREQUENT = 2;
-    private static final int RECENT_GHOST = 3;
-    private static final int FREQUENT_GHOST = 4;
-    private static final int MISS = 5;
-    private static final int BYPASSED = 6;
-    private static final String EMPTY = "recent | frequent | recent ghosts | frequent ghosts";
-
-    private static final Check CHECK = new Check();
-
+public final class PromisesTest extends TestTools {
     public static void main(String[] args) {
         promise1NewObject();
         promise2Hits();
@@ -42,32 +26,6 @@ public final class PromisesTest {
         promise26Log();
         promise27LeastRecentHitsIf();
         CHECK.end();
-    }
-
-    private static AdaptiveReplacementCache made(int capacity, int... keys) {
-        AdaptiveReplacementCache x = new AdaptiveReplacementCache();
-        x.setCapacity(capacity);
-        requestAll(x, keys);
-        return x;
-    }
-
-    private static void requestAll(AdaptiveReplacementCache x, int... keys) {
-        for (int key : keys) {
-            x.request(key);
-        }
-    }
-
-    private static void dueRequest(AdaptiveReplacementCache x, int key, int outcome, String lists) {
-        CHECK.due("request(" + key + ")", x.request(key), outcome);
-        CHECK.dueText("the lists after request(" + key + ")", Shown.lists(x), lists);
-    }
-
-    /** The call throws, and the object shows the same before and after it. */
-    private static void dueNoChange(AdaptiveReplacementCache x, String name,
-            Class<? extends RuntimeException> want, Check.Call call) {
-        String before = Shown.all(x);
-        CHECK.dueThrow(name, want, call);
-        CHECK.dueText("the object after " + name, Shown.all(x), before);
     }
 
     /** Capacity 6, target 0; keys in all lists but the frequent ghosts. */
@@ -417,7 +375,7 @@ public final class PromisesTest {
         CHECK.due("request(2022), no scan", x.request(2022), MISS);
         CHECK.due("setScanLength(20)", x.setScanLength(20), 0);
         CHECK.due("request(2023), the run goes on", x.request(2023), BYPASSED);
-        for (int length : new int[] {1, 21, -1, -2, Integer.MIN_VALUE, Integer.MAX_VALUE}) {
+        for (int length : NO_SCAN_LENGTHS) {
             dueNoChange(x, "setScanLength(" + length + ")", BAD_ARGUMENT, () -> x.setScanLength(length));
         }
         CHECK.due("setScanLength(2) after wrong ones", x.setScanLength(2), 20);
