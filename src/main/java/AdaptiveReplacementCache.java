@@ -203,7 +203,7 @@ public final class AdaptiveReplacementCache {
         return list.fromNewest(place);
     }
 
-    /** Tells of a list, or of an outcome, which has the number of the list in which the key was. */
+    // The outcome of a hit is the number of the list in which the key was, so this tells of both.
     private static boolean isPage(int where) {
         return where == RECENT || where == FREQUENT;
     }
@@ -226,7 +226,7 @@ public final class AdaptiveReplacementCache {
         }
     }
 
-    /** The four lists with all that decides how a request changes them. */
+    // Apart from the log and the counters, so that hitsIf can replay the log in a second one.
     private static final class Cache {
         private final KeyList recent = new KeyList();
         private final KeyList frequent = new KeyList();
@@ -239,7 +239,6 @@ public final class AdaptiveReplacementCache {
         private int keyBefore = NONE;
         private int evictions;
 
-        /** Makes it as a new one, but with these settings. */
         void startAnew(int newCapacity, int newScanLength) {
             forgetAll();
             capacity = newCapacity;
@@ -300,7 +299,6 @@ public final class AdaptiveReplacementCache {
             return surplusPages;
         }
 
-        /** Handles a request and returns its outcome. */
         int serve(int key) {
             lengthenRun(key);
             int where = listWith(key);
@@ -320,7 +318,7 @@ public final class AdaptiveReplacementCache {
             return where;
         }
 
-        /** Which key would leave the cache if a key that is in no list was requested; or NONE. */
+        // What else admit drops are ghosts, which do not change whether and where a page leaves.
         int nextToLeave() {
             if (dropsRecentPage()) {
                 return recent.oldest();
@@ -346,6 +344,7 @@ public final class AdaptiveReplacementCache {
             } else if (keysInAll() == 2 * capacity) {
                 frequentGhosts.takeOldest();
             }
+            // Does nothing after a page was dropped: the cache was at most full before.
             makeRoom(false);
             recent.join(key);
         }
@@ -420,9 +419,8 @@ public final class AdaptiveReplacementCache {
         }
     }
 
-    /** Keys in the order in which they joined. */
     private static final class KeyList {
-        // The oldest key stands first, so that joining moves no other key.
+        // In the order in which they joined: the oldest key stands first, so that joining moves no other.
         private final int[] keys = new int[LONGEST_LIST];
         private int length;
 
@@ -434,7 +432,7 @@ public final class AdaptiveReplacementCache {
             length = 0;
         }
 
-        /** Puts a key in as the newest one; NONE, which an empty list gives, is no key. */
+        // NONE is what an empty list gives when its oldest key is taken.
         void join(int key) {
             if (key != NONE && length < keys.length) {
                 keys[length] = key;
@@ -468,7 +466,6 @@ public final class AdaptiveReplacementCache {
             return key;
         }
 
-        /** Takes a key out and tells whether it was there. */
         boolean takeOut(int key) {
             int index = indexOf(key);
             closeGap(index);
